@@ -171,6 +171,12 @@ public final class StreamTest {
         due.is("most(0)", x.most(0), 18);
         Due.line(x, "room 0 5");
         due.is("most(0)", x.most(0), 5);
+        StreamWeave atFirst = Due.woven("table 0", "frame 3 1 1");
+        due.is("most(3), held behind tick 0 alone", atFirst.most(3), 1);
+        StreamWeave atLast = Due.woven("wide 4", "table 1", "clock 0 1", "clock 1 1", "frame 2 9 99", "room 2 9");
+        due.is("most(2)", atLast.most(2), 9);
+        due.is("held(2, 98)", atLast.held(2, 98), 9);
+        due.is("held(2, 99)", atLast.held(2, 99), 0);
     }
 
     private static void needs() {
