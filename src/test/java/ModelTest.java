@@ -4,6 +4,7 @@ import java.util.Random;
 public final class ModelTest {
     private static final int RUNS = 240;
     private static final int CALLS = 512;
+    private static final int MOST_AT_ONCE = 40;
     private static final String[] WORDS = {"frame", "room", "clock", "table", "wide", "drop", "swap"};
     private static final int[] NUMBERS = {3, 2, 2, 1, 1, 1, 3};
     private static final Due due = new Due();
@@ -30,7 +31,8 @@ public final class ModelTest {
     }
 
     private void run() {
-        while (calls < CALLS) {
+        // What an object answers behind its last call is free, so none is asked there.
+        while (calls <= CALLS - MOST_AT_ONCE) {
             if (below(3) == 0) {
                 askWidely();
             } else {
@@ -150,7 +152,8 @@ public final class ModelTest {
             case 2 -> same("without(" + p + ")", x.without(p), model.without(p));
             case 3, 4 -> same("image(" + p + ")", x.image(p), model.image(p));
             case 5 -> same("restore(" + p + ")", x.restore(p), model.restore(p));
-            case 6, 7, 8, 9 -> same("written(" + p + ", " + f + ", " + k + ")", x.written(p, f, k), model.written(p, f, k));
+            case 6, 7, 8, 9 -> same("written(" + p + ", " + f + ", " + k + ")", x.written(p, f, k),
+                model.written(p, f, k));
             case 10, 11, 12 -> same("told(" + p + ", " + what + ")", x.told(p, what), model.told(p, what));
             case 13, 14, 15, 16 -> same("held(" + p + ", " + tick + ")", x.held(p, tick), model.held(p, tick));
             case 17, 18, 19, 20, 21, 22 -> same("frame(" + p + ", " + f + ", " + what + ")", x.frame(p, f, what),

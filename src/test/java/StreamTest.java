@@ -74,8 +74,8 @@ public final class StreamTest {
 
     private static void packetCounters() {
         due.about("8 packet, counters");
-        StreamWeave x = Due.woven("table 1", "wide 3", "clock 0 1", "clock 2 1");
         for (int tick = 0; tick < 100; tick++) {
+            StreamWeave x = Due.woven("table 1", "wide 3", "clock 0 1", "clock 2 1");
             packetIs(x, tick, 0, new int[] {1, NONE, NONE, tick % 16});
             packetIs(x, tick, 1, new int[] {2, 0, NONE, tick % 16});
             packetIs(x, tick, 2, new int[] {2, 2, NONE, tick % 16});
