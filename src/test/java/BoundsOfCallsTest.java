@@ -273,6 +273,7 @@ public final class BoundsOfCallsTest {
         due.is("told(0, 2)", x.told(0, 2), 10);
         due.is("told(0, 3)", x.told(0, 3), 10);
         line(x, "swap 0 1 10", FULL);
+        due.is("told(0, 2)", x.told(0, 2), 10);
         line(x, "swap 0 1 9", 10);
         due.is("told(0, 3)", x.told(0, 3), 11);
         line(x, "swap 1 0 12", 2);
@@ -848,6 +849,8 @@ public final class BoundsOfCallsTest {
         due.is("count(5) behind restore", x.count(5), 2);
         x.image(0);
         due.is("count(5), both", x.count(5), 3);
+        x.restore(1);
+        due.is("count(5), both behind restore", x.count(5), 3);
         StreamWeave y = new StreamWeave();
         y.image(0);
         due.is("count(5), 0", y.count(5), 1);

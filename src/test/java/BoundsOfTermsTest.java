@@ -444,7 +444,19 @@ public final class BoundsOfTermsTest {
             }
             faults(wholeOfTwo.substring(0, wholeOfTwo.length() - 1), NONE);
             faults(wholeOfTwo, NONE);
+            for (int k = 0; k < whole.length(); k++) {
+                beginsAnew(whole, k);
+            }
         }
+    }
+
+    /** What THE LINE had before it was wiped is nothing of it. */
+    private static void beginsAnew(String whole, int length) {
+        StreamWeave x = new StreamWeave();
+        Due.type(x, whole);
+        x.wipe();
+        Due.type(x, whole.substring(0, length));
+        due.is("fault() of '" + whole.substring(0, length) + "' behind wipe", x.fault(), length);
     }
 
     private static void firstRefusal() {
@@ -491,7 +503,7 @@ public final class BoundsOfTermsTest {
         StreamWeave x = Due.woven("frame 1 9 3", "frame 1 2 8");
         x.image(0);
         for (String more : new String[] {"wide 3", "table 6", "clock 1 4", "room 2 3", "frame 2 9 12",
-            "frame 3 1 99"}) {
+            "frame 3 1 98", "frame 3 1 99"}) {
             Due.line(x, more);
         }
         for (int f = 0; f < 10; f++) {
@@ -550,7 +562,7 @@ public final class BoundsOfTermsTest {
         for (String text : new String[] {"frame 1 1 8", "frame 2 1 1", "frame 0 1 69"}) {
             changesNothing("line() of '" + text + "'", text, STATE, StreamWeave::line);
         }
-        for (String text : new String[] {"frame 0 1 70", "swap 0 3 70"}) {
+        for (String text : new String[] {"frame 0 1 70", "swap 0 3 70", "swap 0 3 69"}) {
             changesNothing("line() of '" + text + "'", text, FULL, StreamWeave::line);
         }
         changesNothing("say(31)", "table 5", OUTSIDE, x -> x.say(31));
@@ -600,5 +612,23 @@ public final class BoundsOfTermsTest {
         due.is("sent(3) behind without", x.sent(3), 2);
         x.without(0);
         due.is("most(0) behind without", x.most(0), 2);
+        asThingsAreWovenAnew();
+    }
+
+    private static void asThingsAreWovenAnew() {
+        StreamWeave x = Due.woven("table 9", "clock 0 5", "frame 0 9 3", "frame 0 1 50", "frame 2 1 1");
+        int[] sent = {66, 12, 20, 2, 1, 2, 9, 1};
+        int[] counters = {0, 0, 1, 2};
+        for (String again : new String[] {"table 9", "room 3 1", "drop 1"}) {
+            for (int what = 0; what < 8; what++) {
+                due.is("sent(" + what + ") ahead of " + again, x.sent(what), sent[what]);
+            }
+            for (int tick = 0; tick < 4; tick++) {
+                due.is("packet(" + tick + ", 0, 3) ahead of " + again, x.packet(tick, 0, 3), counters[tick]);
+            }
+            Due.line(x, again);
+            x.without(3);
+            x.room(0);
+        }
     }
 }
